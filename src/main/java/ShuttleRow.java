@@ -712,7 +712,7 @@ public final class ShuttleRow {
         private void sortFrom(int first, boolean upwards) {
             for (int k = first + 1; k < count; k++) {
                 for (int at = k; at > first; at--) {
-                    if (stopAt(at - 1) < stopAt(at) == upwards) {
+                    if ((stopAt(at - 1) < stopAt(at)) == upwards) {
                         break;
                     }
                     swap(at - 1, at);

@@ -54,12 +54,22 @@ final class Check {
         try {
             call.run();
         } catch (Throwable got) {
-            if (got.getClass() != due) {
-                tell(what + " threw " + got + ", due is " + due.getName());
+            if (!thrownBy(got).equals(due.getName())) {
+                tell(what + " threw " + thrownBy(got) + ", due is " + due.getName());
             }
             return;
         }
         tell(what + " threw nothing, due is " + due.getName());
+    }
+
+    /** The exception's name; the class has to throw it by itself, and not the library or the machine in its place. */
+    static String thrownBy(Throwable got) {
+        StackTraceElement[] trace = got.getStackTrace();
+        boolean own = trace.length > 0 && trace[0].getClassName().matches("(ShuttleRow|Model)(\\$.*)?");
+        boolean machine = got instanceof ArrayIndexOutOfBoundsException || got instanceof NullPointerException
+                || got instanceof ArithmeticException || got instanceof ClassCastException
+                || got instanceof NegativeArraySizeException || got instanceof ArrayStoreException;
+        return got.getClass().getName() + (own && !machine ? "" : " by the machine");
     }
 
     void end() {

@@ -6,7 +6,7 @@ import java.util.function.Supplier;
  * same. The runs are drawn with a fixed seed, so each time they are the same ones.
  */
 public final class ModelTest {
-    private static final int RUNS = 600;
+    private static final int RUNS = 1500;
     private static final int CALLS = 400;
     private static final int[] ODD = {-1, 0, 4, 21, 30, 60, 61, 201, Integer.MIN_VALUE, Integer.MAX_VALUE};
 
@@ -93,12 +93,19 @@ public final class ModelTest {
         }
         r[4] = random.nextInt(10) > 0 ? 1 + random.nextInt(2) : 1 + random.nextInt(6);
         String what = java.util.Arrays.toString(r);
-        both("quote " + what, () -> row.quote(r[0], r[1], r[2], r[3], r[4]),
-                () -> model.quote(r[0], r[1], r[2], r[3], r[4]));
-        both("quoteByTrying " + what, () -> row.quoteByTrying(r[0], r[1], r[2], r[3], r[4]),
-                () -> model.quote(r[0], r[1], r[2], r[3], r[4]));
-        both("quotedBus " + what, () -> row.quotedBus(r[0], r[1], r[2], r[3], r[4]),
-                () -> model.quotedBus(r[0], r[1], r[2], r[3], r[4]));
+        // Not all of them each time, so that none lives on what another one left behind.
+        if (random.nextInt(3) > 0) {
+            both("quote " + what, () -> row.quote(r[0], r[1], r[2], r[3], r[4]),
+                    () -> model.quote(r[0], r[1], r[2], r[3], r[4]));
+        }
+        if (random.nextInt(3) > 0) {
+            both("quoteByTrying " + what, () -> row.quoteByTrying(r[0], r[1], r[2], r[3], r[4]),
+                    () -> model.quote(r[0], r[1], r[2], r[3], r[4]));
+        }
+        if (random.nextInt(3) > 0) {
+            both("quotedBus " + what, () -> row.quotedBus(r[0], r[1], r[2], r[3], r[4]),
+                    () -> model.quotedBus(r[0], r[1], r[2], r[3], r[4]));
+        }
         // Else the thirty requests would soon be used up.
         if (random.nextInt(3) == 0) {
             both("request " + what, () -> row.request(r[0], r[1], r[2], r[3], r[4]),
@@ -121,8 +128,12 @@ public final class ModelTest {
 
     private void improve() {
         int bus = random.nextInt(model.vans.size() + 1);
-        both("bestLength " + bus, () -> row.bestLength(bus), () -> model.bestLength(bus));
-        both("bestLengthByTrying " + bus, () -> row.bestLengthByTrying(bus), () -> model.bestLength(bus));
+        if (random.nextBoolean()) {
+            both("bestLength " + bus, () -> row.bestLength(bus), () -> model.bestLength(bus));
+        }
+        if (random.nextBoolean()) {
+            both("bestLengthByTrying " + bus, () -> row.bestLengthByTrying(bus), () -> model.bestLength(bus));
+        }
         if (random.nextInt(3) == 0) {
             both("improve " + bus, () -> row.improve(bus), () -> model.improve(bus));
             tours();
@@ -211,7 +222,7 @@ public final class ModelTest {
         try {
             return String.valueOf(asked.get());
         } catch (RuntimeException thrown) {
-            return thrown.getClass().getName();
+            return Check.thrownBy(thrown);
         }
     }
 }

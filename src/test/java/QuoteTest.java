@@ -13,6 +13,8 @@ public final class QuoteTest {
         wrongRequests();
         changesNothing();
         afterThirtyRequests();
+        eachAlone();
+        wholeCharge();
         check.end();
     }
 
@@ -128,5 +130,34 @@ public final class QuoteTest {
         check.same("17: thirty", row.requests(), 30);
         due("with thirty requests", row, new int[] {3, 0, 5, 0, 1}, 0, 0);
         due("with thirty requests, farther", row, new int[] {3, 0, 7, 0, 1}, 2, 0);
+    }
+
+    /** Each call is asked first, with nothing that another one could have left behind. */
+    private static void eachAlone() {
+        ShuttleRow row = new ShuttleRow();
+        row.addBus(2, 60, 0, 0);
+        row.addBus(2, 60, 10, 0);
+        check.same("6: alone", row.quote(9, 0, 12, 0, 1), 6);
+        check.same("7: alone", row.quoteByTrying(2, 0, 3, 0, 1), 6);
+        check.same("7: another one", row.quoteByTrying(9, 0, 13, 0, 1), 8);
+        check.same("8: alone", row.quotedBus(2, 0, 3, 0, 1), 0);
+        check.same("8: another one", row.quotedBus(9, 0, 13, 0, 1), 1);
+        check.same("6: another one", row.quote(2, 0, 4, 0, 1), 8);
+        check.same("7: and again", row.quoteByTrying(1, 0, 2, 0, 1), 4);
+        ShuttleRow trying = new ShuttleRow();
+        trying.addBus(2, 60, 3, 3);
+        check.same("7: the first call of all", trying.quoteByTrying(3, 4, 3, 5, 1), 4);
+        ShuttleRow asking = new ShuttleRow();
+        asking.addBus(2, 60, 3, 3);
+        check.same("8: the first call of all", asking.quotedBus(3, 4, 3, 5, 1), 0);
+    }
+
+    private static void wholeCharge() {
+        ShuttleRow row = new ShuttleRow();
+        row.addBus(2, 20, 0, 0);
+        due("as long as the charge", row, new int[] {1, 0, 10, 0, 1}, 20, 0);
+        row.request(1, 0, 9, 0, 1);
+        due("2 more are left", row, new int[] {2, 0, 10, 0, 1}, 2, 0);
+        throwing("not 4 more", row, new int[] {2, 0, 11, 0, 1}, NoSuchElementException.class);
     }
 }
