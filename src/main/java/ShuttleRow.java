@@ -42,7 +42,8 @@ public final class ShuttleRow {
     private static final int BATTERY_FAULT = 4;
 
     private static final int NONE = -1;
-    private static final int NO_BOUND = Integer.MAX_VALUE;
+    /** Far above the length of any tour. */
+    private static final int NO_BOUND = 1000000;
 
     private final ArrayList<Bus> buses;
     private final Book book;
@@ -572,8 +573,8 @@ public final class ShuttleRow {
         private int directRide;
         private int latestPickup;
         private int longestRide;
-        private char status = WAITING;
-        private int fault = NO_FAULT;
+        private char status;
+        private int fault;
         private int bus = NONE;
         private int pickedAt;
         private int droppedAt;
@@ -849,7 +850,7 @@ public final class ShuttleRow {
         }
     }
 
-    /** Goes along a tour stop by stop, and gives it up at the first one that makes it impossible or too long. */
+    /** Goes along a tour stop by stop, and gives it up at the first that makes it impossible or too long. */
     private static final class Walk {
         private final Book book;
         private final int[] times = new int[MOST_PLANNED_STOPS];
@@ -864,7 +865,7 @@ public final class ShuttleRow {
             this.book = book;
         }
 
-        /** Returns the index of the stop at which the tour is given up, or NONE if it is possible and below the bound. */
+        /** Returns the stop at which the tour is given up, or NONE if it is possible and below the bound. */
         private int follow(Bus bus, Tour tour, int now, int bound) {
             x = bus.x;
             y = bus.y;
