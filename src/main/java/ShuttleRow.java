@@ -111,12 +111,11 @@ public final class ShuttleRow {
     /** Takes in a request, and plans or refuses it; returns its number. */
     public int request(int fromX, int fromY, int toX, int toY, int riders)
             throws IllegalArgumentException, UnsupportedOperationException, IllegalStateException {
-        checkWish(fromX, fromY, toX, toY, riders);
+        takeWish(fromX, fromY, toX, toY, riders);
         int number = book.count();
         if (number >= MOST_REQUESTS) {
             throw new IllegalStateException("there are 30 requests");
         }
-        noteWish(fromX, fromY, toX, toY, riders);
         choice.tryAll(buses, number, now);
         Request request = book.keepWish();
         if (choice.isFound() && choice.bus < buses.size()) {
@@ -136,8 +135,7 @@ public final class ShuttleRow {
     /** Returns what the plan adds that a request would get now, found by plans that are given up early. */
     public int quote(int fromX, int fromY, int toX, int toY, int riders)
             throws IllegalArgumentException, UnsupportedOperationException, NoSuchElementException {
-        checkWish(fromX, fromY, toX, toY, riders);
-        noteWish(fromX, fromY, toX, toY, riders);
+        takeWish(fromX, fromY, toX, toY, riders);
         choice.tryEarly(buses, book.count(), now);
         checkFound();
         return choice.added;
@@ -146,8 +144,7 @@ public final class ShuttleRow {
     /** Returns the same as quote, found by trying all plans. */
     public int quoteByTrying(int fromX, int fromY, int toX, int toY, int riders)
             throws IllegalArgumentException, UnsupportedOperationException, NoSuchElementException {
-        checkWish(fromX, fromY, toX, toY, riders);
-        noteWish(fromX, fromY, toX, toY, riders);
+        takeWish(fromX, fromY, toX, toY, riders);
         choice.tryAll(buses, book.count(), now);
         checkFound();
         return choice.added;
@@ -156,8 +153,7 @@ public final class ShuttleRow {
     /** Returns the bus that a request would get now. */
     public int quotedBus(int fromX, int fromY, int toX, int toY, int riders)
             throws IllegalArgumentException, UnsupportedOperationException, NoSuchElementException {
-        checkWish(fromX, fromY, toX, toY, riders);
-        noteWish(fromX, fromY, toX, toY, riders);
+        takeWish(fromX, fromY, toX, toY, riders);
         choice.tryAll(buses, book.count(), now);
         checkFound();
         return choice.bus;
@@ -462,7 +458,8 @@ public final class ShuttleRow {
 
     // What the calls are made of.
 
-    private void noteWish(int fromX, int fromY, int toX, int toY, int riders) {
+    private void takeWish(int fromX, int fromY, int toX, int toY, int riders) {
+        checkWish(fromX, fromY, toX, toY, riders);
         Request wish = book.wish;
         wish.fromX = fromX;
         wish.fromY = fromY;
