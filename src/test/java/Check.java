@@ -1,3 +1,5 @@
+import java.util.function.Supplier;
+
 /** Counts the answers that are not as due, and ends the program with exit code 1 if there are any. */
 final class Check {
     private final String name;
@@ -89,7 +91,8 @@ final class Check {
     /** The tour of a bus as a text: p3 picks up and d3 drops the riders of request 3. */
     static String tour(ShuttleRow row, int bus) {
         StringBuilder text = new StringBuilder();
-        for (int k = 0; k < row.stops(bus); k++) {
+        int stops = row.stops(bus);
+        for (int k = 0; k < stops; k++) {
             text.append(k == 0 ? "" : " ").append(row.isPickup(bus, k) ? 'p' : 'd').append(row.stopRequest(bus, k));
         }
         return text.toString();
@@ -98,28 +101,59 @@ final class Check {
     /** The times of the stops of a bus as a text. */
     static String times(ShuttleRow row, int bus) {
         StringBuilder text = new StringBuilder();
-        for (int k = 0; k < row.stops(bus); k++) {
+        int stops = row.stops(bus);
+        for (int k = 0; k < stops; k++) {
             text.append(k == 0 ? "" : " ").append(row.stopTime(bus, k));
         }
         return text.toString();
     }
 
-    /** Everything that a planner shows, to see that a call changed nothing. */
+    /** Everything that a planner shows, its settings too, to see that a call changed nothing. */
     static String all(ShuttleRow row, int buses) {
-        StringBuilder text = new StringBuilder();
-        text.append("now ").append(row.now());
+        StringBuilder text = new StringBuilder("now " + row.now() + ", " + settings(row) + ", worst ");
+        text.append(answer(() -> row.worstRide()));
         for (int b = 0; b < buses; b++) {
-            text.append("; bus ").append(row.x(b)).append(',').append(row.y(b)).append(' ').append(row.charge(b));
-            text.append(' ').append(row.onBoard(b)).append(' ').append(row.driven(b)).append(' ').append(row.empty(b));
-            text.append(" [").append(tour(row, b)).append("] [").append(times(row, b)).append(']');
+            text.append("; bus ").append(bus(row, b));
         }
-        for (int r = 0; r < row.requests(); r++) {
-            text.append("; ").append(row.status(r)).append(row.latestPickup(r)).append(' ').append(row.longestRide(r));
+        text.append("; no more than ").append(answer(() -> row.stops(buses)));
+        int requests = row.requests();
+        for (int r = 0; r < requests; r++) {
+            text.append("; request ").append(request(row, r));
         }
-        for (int e = 0; e < row.entries(); e++) {
+        int entries = row.entries();
+        for (int e = 0; e < entries; e++) {
             text.append("; entry ").append(row.entryBus(e)).append(' ').append(row.entryRequest(e));
             text.append(' ').append(row.entryTime(e)).append(' ').append(row.entryDistance(e));
         }
         return text.toString();
+    }
+
+    /** A setting is only told by setting another one, so it is set back. */
+    private static String settings(ShuttleRow row) {
+        int detour = row.setDetour(0);
+        row.setDetour(detour);
+        int wait = row.setWait(0);
+        row.setWait(wait);
+        return "detour " + detour + ", wait " + wait;
+    }
+
+    private static String bus(ShuttleRow row, int b) {
+        return row.x(b) + "," + row.y(b) + " charge " + row.charge(b) + " on board " + row.onBoard(b)
+                + " driven " + row.driven(b) + " empty " + row.empty(b) + " " + row.emptyByJournal(b)
+                + " occupancy " + answer(() -> row.occupancy(b)) + " [" + tour(row, b) + "] [" + times(row, b) + "]";
+    }
+
+    private static String request(ShuttleRow row, int r) {
+        return row.status(r) + " " + row.latestPickup(r) + " " + row.longestRide(r) + " " + answer(() -> row.reason(r))
+                + " " + answer(() -> row.busOf(r)) + " " + answer(() -> row.pickupTime(r))
+                + " " + answer(() -> row.dropTime(r));
+    }
+
+    static String answer(Supplier<Object> asked) {
+        try {
+            return String.valueOf(asked.get());
+        } catch (RuntimeException thrown) {
+            return thrownBy(thrown);
+        }
     }
 }
