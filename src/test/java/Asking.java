@@ -36,7 +36,7 @@ final class Asking {
         check.same("11: " + what, Check.answer(() -> row.reason(number)), "" + reason);
     }
 
-    /** The best length is told in both ways, and improve then gives the best order; the tour is the one that it leaves. */
+    /** Both ways tell the best length, and improve then gives the best order; the tour is the one that it leaves. */
     void best(String what, ShuttleRow row, int bus, int length, String tour) {
         int before = row.length(bus);
         check.same("23: " + what, row.bestLength(bus), length);

@@ -161,7 +161,7 @@ public final class ChoiceEdgesTest {
         asking.planned("and once more", row, wish(4, 0, 8, 0, 1), 0, 0, "p2 p1 p0 d2 d1 d0");
     }
 
-    /** The plan that adds the least: 2 less is enough for a bus with a higher number, and for a place farther behind. */
+    /** The plan that adds the least: 2 less is enough for a higher number of the bus, and for a greater i. */
     private static void lessIsEnough() {
         ShuttleRow row = new ShuttleRow();
         row.addBus(1, 60, 6, 0);

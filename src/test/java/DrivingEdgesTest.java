@@ -28,6 +28,7 @@ public final class DrivingEdgesTest {
         notBeyondTheCapacity();
         increasesByFive();
         emptyIfNobodyIsOnBoard();
+        notEmptyWithRidersOnBoard();
         emptyOfABusThatNeverDrove();
         distanceUntilThen();
         numberedFromZero();
@@ -428,6 +429,19 @@ public final class DrivingEdgesTest {
         check.same("34: to the depot", row.emptyByJournal(0), 8);
     }
 
+    /** Empty if nobody is on board: not behind a pickup, as long as its riders are not dropped. */
+    private static void notEmptyWithRidersOnBoard() {
+        ShuttleRow row = bus(3, 60, 0, 0);
+        row.request(1, 0, 9, 0, 1);
+        row.request(3, 0, 6, 0, 2);
+        int[] due = {1, 1, 1, 1, 1, 1, 1, 1, 1, 2, 3};
+        for (int empty : due) {
+            row.pass(1);
+            check.same("33: at " + row.now(), row.empty(0), empty);
+            check.same("34: at " + row.now(), row.emptyByJournal(0), empty);
+        }
+    }
+
     /** The empty distance of a bus, and not that of another one: 0 if it never drove. */
     private static void emptyOfABusThatNeverDrove() {
         ShuttleRow row = bus(2, 60, 0, 0);
@@ -503,7 +517,7 @@ public final class DrivingEdgesTest {
         check.same("26: none are left", row.pass(60), 0);
     }
 
-    /** The sum of the distances that each rider was driven, until now, divided by the distance that the bus has driven. */
+    /** The sum of the distances that each rider was driven, until now, divided by the one that the bus has driven. */
     private static void meanOfRiders() {
         ShuttleRow row = bus(6, 60, 0, 0);
         row.addBus(6, 60, 9, 9);

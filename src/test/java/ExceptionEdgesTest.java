@@ -102,7 +102,7 @@ public final class ExceptionEdgesTest {
         check.same("3: 59 is taken", row.setWait(59), 60);
     }
 
-    /** If the seats are not between 1 and 6, the capacity is not between 20 and 200, or a coordinate not between 0 and 20. */
+    /** If the seats are not between 1 and 6, the capacity is not from 20 to 200, or a coordinate not from 0 to 20. */
     private static void addBus() {
         ShuttleRow row = busy();
         throwing("4: the seats or the capacity", ARGUMENT, row, 2, () -> row.addBus(0, 60, 5, 5),
@@ -216,8 +216,11 @@ public final class ExceptionEdgesTest {
     /** IllegalStateException if it does not wait: on board, cancelled, refused or dropped. */
     private static void cancel() {
         ShuttleRow row = busy();
-        check.same("10: as they are", "" + row.status(0) + row.status(1) + row.status(2) + row.status(3) + row.status(4),
-                "rwcxd");
+        String all = "";
+        for (int number = 0; number < 5; number++) {
+            all += row.status(number);
+        }
+        check.same("10: as they are", all, "rwcxd");
         throwing("9: r, c, x, d", STATE, row, 2, () -> row.cancel(0), () -> row.cancel(2), () -> row.cancel(3),
                 () -> row.cancel(4));
         check.same("9: one that waits", row.cancel(1), 0);
@@ -276,9 +279,11 @@ public final class ExceptionEdgesTest {
         for (int number : new int[] {-1, 0, 30, LEAST, MOST}) {
             ofRequest("none, " + number, none, number);
         }
+        String before = Check.all(row, 2);
         for (int number : new int[] {-1, 5, 6, 30, LEAST, MOST}) {
             ofRequest("five, " + number, row, number);
         }
+        check.same("9 to 16: nothing changed", Check.all(row, 2), before);
         for (int number : new int[] {-1, 30, 31, LEAST, MOST}) {
             ofRequest("thirty, " + number, refused, number);
         }
@@ -341,8 +346,10 @@ public final class ExceptionEdgesTest {
     /** NoSuchElementException if its tour has no such stop: below 0, and from the number of its stops on. */
     private static void noSuchStop() {
         ShuttleRow row = busy();
+        String before = Check.all(row, 2);
         ofStops("bus 0", row, 0, 3);
         ofStops("bus 1, that has none any more", row, 1, 0);
+        check.same("19 to 21: nothing changed", Check.all(row, 2), before);
         check.same("19: the first of three", row.stopRequest(0, 0), 1);
         check.same("19: the last of three", row.stopRequest(0, 2), 0);
         check.same("20: the first of three", row.isPickup(0, 0), true);
@@ -413,9 +420,11 @@ public final class ExceptionEdgesTest {
         }
         ShuttleRow row = busy();
         check.same("36: two pickups and a drop", row.entries(), 3);
+        String before = Check.all(row, 2);
         for (int entry : new int[] {-1, 3, 4, 59, 60, LEAST, MOST}) {
             ofEntry("three, " + entry, row, entry);
         }
+        check.same("37 to 40: nothing changed", Check.all(row, 2), before);
         check.same("37: the first", row.entryBus(0), 1);
         check.same("38: the first", row.entryRequest(0), 4);
         check.same("39: the first", row.entryTime(0), 0);

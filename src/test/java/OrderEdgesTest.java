@@ -179,7 +179,7 @@ public final class OrderEdgesTest {
         asking.best("of six stops", row, 0, 20, "p2 p0 d0 p1 d1 d2");
     }
 
-    /** Of several, the one that has, at the first place where they differ, the stop of the request with the lower number. */
+    /** Of several, the one that has, at the first place where they differ, the stop of the lower request. */
     private static void lowerNumberAtTheFirstPlace() {
         ShuttleRow row = bus(3, 60);
         row.request(5, 0, 4, 0, 1);

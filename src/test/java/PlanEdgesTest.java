@@ -64,7 +64,7 @@ public final class PlanEdgesTest {
         asking.planned("i 1, j 1 of 1", having(2, 200, 0, 15, onBoard), wish(9, 0, 10, 0, 1), 4, 0, "d0 p1 d1");
     }
 
-    /** The pickup is put ahead of the stop i, the drop ahead of the stop j, behind the pickup if both are the same. */
+    /** The pickup ahead of the stop i, the drop ahead of the stop j, behind the pickup if both are the same. */
     private static void placesOfATourWithTwoStops() {
         int[] waits = {4, 0, 8, 0, 1};
         asking.planned("i 0, j 0 of 2", having(2, 200, 0, 15, waits), wish(1, 0, 3, 0, 1), 0, 0, "p1 d1 p0 d0");
@@ -121,12 +121,14 @@ public final class PlanEdgesTest {
     /** More riders than seats: those who are on board already take theirs. */
     private static void moreRidersThanSeatsWithRidersOnBoard() {
         asking.planned("the last seat", having(3, 200, 50, 15, 0, 0, 8, 0, 2), wish(2, 0, 4, 0, 1), 0, 0, "p1 d1 d0");
-        asking.planned("one seat too few", having(3, 200, 50, 15, 0, 0, 8, 0, 2), wish(2, 0, 4, 0, 2), 4, 0, "d0 p1 d1");
+        asking.planned("one seat too few", having(3, 200, 50, 15, 0, 0, 8, 0, 2), wish(2, 0, 4, 0, 2), 4, 0,
+                "d0 p1 d1");
     }
 
     /** Somewhere on it there are more riders on board than seats: also behind another stop. */
     private static void moreRidersThanSeatsSomewhereOnIt() {
-        asking.planned("the last seat", having(3, 200, 50, 15, 4, 0, 8, 0, 2), wish(5, 0, 7, 0, 1), 0, 0, "p0 p1 d1 d0");
+        asking.planned("the last seat", having(3, 200, 50, 15, 4, 0, 8, 0, 2), wish(5, 0, 7, 0, 1), 0, 0,
+                "p0 p1 d1 d0");
         asking.planned("one seat too few", having(3, 200, 50, 15, 4, 0, 8, 0, 2), wish(5, 0, 7, 0, 2), 4, 0,
                 "p0 d0 p1 d1");
         ShuttleRow row = having(3, 200, 50, 15, 4, 0, 8, 0, 2);
@@ -278,7 +280,7 @@ public final class PlanEdgesTest {
         asking.refused("d ahead of the drop, w behind it", row, wish(5, 3, 5, 5, 1), 'd');
     }
 
-    /** Each check for the whole tour: a late pickup behind a ride that is too long is 'w', and 7 stops are always 's'. */
+    /** Each check for the whole tour: a late pickup behind too long a ride is 'w', and 7 stops are always 's'. */
     private static void eachCheckForTheWholeTour() {
         ShuttleRow row = having(3, 200, 0, 7, 0, 0, 5, 0, 1);
         row.request(7, 0, 9, 0, 1);

@@ -25,6 +25,7 @@ public final class TownEdgesTest {
         settingsAtFirst();
         latestPickup();
         longestRideRoundedDown();
+        longestRideOfAllWays();
         fixedWhenItComes();
         fiveHundredAndTwelveCalls();
         check.end();
@@ -315,6 +316,21 @@ public final class TownEdgesTest {
             int toX = Math.min(20, due[k][0]);
             row.request(0, 0, toX, due[k][0] - toX, 1);
             check.same("14: " + due[k][0] + " with " + due[k][1] + " percent", row.longestRide(k), due[k][2]);
+        }
+    }
+
+    /** Divided by 100 and rounded down: a whole product stays whole, with each direct ride and each detour. */
+    private static void longestRideOfAllWays() {
+        for (int detour = 0; detour <= 200; detour++) {
+            ShuttleRow[] rows = {new ShuttleRow(), new ShuttleRow()};
+            rows[0].setDetour(detour);
+            rows[1].setDetour(detour);
+            for (int direct = 1; direct <= 40; direct++) {
+                ShuttleRow row = rows[direct % 2];
+                int number = row.request(0, Math.max(0, 20 - direct), Math.max(0, direct - 20), 20, 1);
+                int left = direct * (100 + detour) - 100 * row.longestRide(number);
+                check.same("14: " + direct + " with " + detour + " percent", left >= 0 && left < 100, true);
+            }
         }
     }
 
