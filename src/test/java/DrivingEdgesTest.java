@@ -32,6 +32,7 @@ public final class DrivingEdgesTest {
         emptyOfABusThatNeverDrove();
         distanceUntilThen();
         numberedFromZero();
+        farAndLong();
         leastAndMostMinutes();
         madeByAllBuses();
         meanOfRiders();
@@ -491,6 +492,28 @@ public final class DrivingEdgesTest {
         check.same("39: the second", row.entryTime(1), 3);
     }
 
+    /** What is counted goes on, however far and long a bus drives. */
+    private static void farAndLong() {
+        ShuttleRow row = bus(6, 200, 0, 0);
+        row.setWait(60);
+        for (int round = 0; round < 6; round++) {
+            row.request(20, 20, 0, 0, 1 + round);
+            check.same("26: there and back", row.pass(60) + row.pass(40), 2);
+            entry(row, 2 * round, 0, round, 100 * round + 40, 80 * round + 40);
+            entry(row, 2 * round + 1, 0, round, 100 * round + 80, 80 * round + 80);
+        }
+        check.same("27: 600", row.now(), 600);
+        check.same("30: charged again", row.charge(0), 200);
+        check.same("32: six times 80", row.driven(0), 480);
+        check.same("33: half of it", row.empty(0), 240);
+        check.same("34: half of it", row.emptyByJournal(0), 240);
+        check.same("35: 40 with each of 1 to 6", row.occupancy(0), 40f * 21f / 480f);
+        check.same("36: twelve", row.entries(), 12);
+        check.same("15: the first one's", row.pickupTime(0), 40);
+        check.same("16: the last one's", row.dropTime(5), 580);
+        check.same("41: all direct", row.worstRide(), 0);
+    }
+
     /** The number of minutes is between 1 and 60. */
     private static void leastAndMostMinutes() {
         ShuttleRow row = bus(1, 200, 0, 0);
@@ -557,5 +580,13 @@ public final class DrivingEdgesTest {
         row.request(10, 0, 9, 0, 1);
         row.pass(1);
         check.same("41: a later one that is direct", row.worstRide(), 2);
+        ShuttleRow later = bus(3, 200, 0, 0);
+        later.request(0, 0, 3, 0, 1);
+        later.pass(3);
+        check.same("41: the first one, direct", later.worstRide(), 0);
+        later.request(3, 0, 13, 0, 1);
+        later.request(5, 1, 7, 1, 1);
+        later.pass(20);
+        check.same("41: the second one, 12 instead of 10", later.worstRide(), 2);
     }
 }

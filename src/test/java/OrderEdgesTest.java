@@ -6,7 +6,18 @@ public final class OrderEdgesTest {
     private static final Check check = new Check("OrderEdgesTest");
     private static final Asking asking = new Asking(check);
 
+    /** The minutes that have passed before each planner gets its buses. */
+    private static int begin;
+
     public static void main(String[] args) {
+        for (int minutes : new int[] {0, 7, 60}) {
+            begin = minutes;
+            all();
+        }
+        check.end();
+    }
+
+    private static void all() {
         withoutStops();
         withOneStop();
         asManyRidersAsSeats();
@@ -28,11 +39,18 @@ public final class OrderEdgesTest {
         alsoIfAsLong();
         theOrderNowIsAlwaysPossible();
         onlyTheTourOfThatBus();
-        check.end();
+    }
+
+    private static ShuttleRow planner() {
+        ShuttleRow row = new ShuttleRow();
+        if (begin > 0) {
+            row.pass(begin);
+        }
+        return row;
     }
 
     private static ShuttleRow bus(int seats, int capacity) {
-        ShuttleRow row = new ShuttleRow();
+        ShuttleRow row = planner();
         row.addBus(seats, capacity, 0, 0);
         return row;
     }
@@ -128,7 +146,7 @@ public final class OrderEdgesTest {
 
     /** But it does if a ride is longer: also of riders who are on board already. */
     private static void longerThanTheLongestRideOfRidersOnBoard() {
-        ShuttleRow row = new ShuttleRow();
+        ShuttleRow row = planner();
         row.addBus(3, 60, 2, 0);
         row.request(2, 0, 5, 0, 1);
         row.request(1, 0, 7, 0, 1);
@@ -156,7 +174,7 @@ public final class OrderEdgesTest {
 
     /** The best order is the possible one with the least length. */
     private static void leastLength() {
-        ShuttleRow row = new ShuttleRow();
+        ShuttleRow row = planner();
         row.addBus(2, 63, 1, 0);
         row.setWait(56);
         row.setDetour(115);
