@@ -39,7 +39,8 @@ public final class LanguageTest {
         String code = withoutCommentsAndTexts(source);
         check.same("3: signs beyond 126", found(code, "[^\\n\\x20-\\x7e]"), "");
         check.same("a package line", found(code, "(?m)^\\s*package\\b"), "");
-        check.same("4: imports", found(code, "import (?!java\\.util\\.(ArrayList|List|Iterator|Arrays|NoSuchElementException);)"), "");
+        check.same("4: imports", found(code,
+                "import (?!java\\.util\\.(ArrayList|List|Iterator|Arrays|NoSuchElementException);)"), "");
         check.same("6, 2: words", found(code, "\\b(finally|synchronized|assert|volatile|native)\\b|::"), "");
         check.same("5: a static block", found(code, "\\bstatic\\s*\\{"), "");
         check.same("6: throw", found(code, "\\bthrow\\b(?! new " + THROWN + "\\(\\s*(\"\")?\\);)"), "");
